@@ -63,6 +63,7 @@ public final class ChanceTest {
         slip(x, new int[] {0, 14, 3}, 1, 1);
         slip(x, new int[] {0, 13, 3}, 0, 1);
         slip(x, new int[] {0, 200, 3}, 0, 1);
+        slip(x, new int[] {0, 1, 3}, 0, 1);
         Check.play(x, "bd");
         // window 2 hears 4 by both, 8 by d alone, 10 by b alone, 14 by none
         slip(x, new int[] {2, 4, 3}, 49, 100);
@@ -148,6 +149,10 @@ public final class ChanceTest {
         // 5624 becomes 421874 left over by 65537, 28652: 2, 5730 by 6: a
         Check.due("then a", x.year(0, 3, 2), 1);
         Check.due("6 and 14 and 12", x.year(0, 3, 1), 32);
+        // 1 becomes 149: 4, 29 by 6: f; then 11249: 4, 2249 by 6: f
+        Check.due("12 and 14", x.year(1, 2, 1), 26);
+        // 2621 becomes 38: 3, 7 by 6: b, above which it is 4 and below 10
+        Check.due("what the first hears", x.year(2621, 1, 1), 4);
         // 884 becomes 66374 left over by 65537, 837: 2, 167 by 6: f
         Check.due("left over by 65537", x.year(884, 1, 2), 32);
         // 9999 becomes 749999 left over by 65537, 29092: 2, 5818 by 6: e

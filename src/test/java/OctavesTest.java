@@ -103,6 +103,9 @@ public final class OctavesTest {
         Check.play(x, "bc");
         // a d: 6 6 6 6 6 6; a lifted: 8; d lifted: 12 (-2); b: 4, c: 2; e: 4; f: 2
         Check.due("who puts and who lifts", x.feet(), 2 + 4 + 8 + 16 + 32);
+        StreetString y = Check.with("++++++e");
+        // all hear 10 (0 pence); e lifted: 20 (0 pence); any other less than ten
+        Check.due("as much is not more", y.feet(), 0);
     }
 
     private static void hook(StreetString x, int f, int lengths, int size, int where) {

@@ -7,6 +7,7 @@ public final class StopsTest {
         changes();
         changesRefused();
         shifts();
+        shiftsAnew();
         Check.end();
     }
 
@@ -77,6 +78,9 @@ public final class StopsTest {
         Check.due("one window twice", x.friends(1, 2, 1, 2, 0), -1);
         Check.due("no such window", x.friends(5, 2, 1, 2, 0), -1);
         Check.due("no such other window", x.friends(1, 2, 5, 0, 9), -1);
+        Check.due("v of 1 can not be heard", x.friends(0, 1, 1, 2, 0), -6);
+        Check.due("w of 200 can not be heard", x.friends(0, 2, 1, 200, 1), -6);
+        Check.due("w of 1 can not be heard", x.friends(0, 2, 1, 1, 1), -6);
         Check.due("v of 0", x.friends(0, 0, 1, 2, 0), -2);
         Check.due("v of 201", x.friends(0, 201, 1, 2, 0), -2);
         Check.due("w of 0", x.friends(0, 2, 1, 0, 0), -2);
@@ -156,5 +160,52 @@ public final class StopsTest {
             thirty.append("14");
         }
         shift(x, thirty.toString(), 1, 4, (1 << 30) - 1);
+    }
+
+    /** What could be heard before a hook was moved does not count any more. */
+    private static void shiftsAnew() {
+        StreetString x = new StreetString();
+        x.windows(2);
+        // hooks at 1 and 2, the end at 3; one finger: 3 3, 2 2 (a), 2 1 (b)
+        x.gap(0, 1);
+        x.gap(1, 1);
+        x.set(0, 1);
+        shift(x, "01", 0, 1, 0);
+        shift(x, "0201", 1, 0, 0);
+        shift(x, "02", 0, 1, 1);
+        shift(x, "0203", 0, 1, 1);
+        // at 1 and 2, the end at 4; 4 4, 3 3 (a), 2 2 (b)
+        x.set(0, 2);
+        shift(x, "03", 0, 1, 1);
+        // at 9 and 18, the end at 20: 20 20, 11 11 (a), 18 2 (b)
+        x.gap(0, 9);
+        x.gap(1, 9);
+        shift(x, "20", 0, 1, 1);
+        shift(x, "2020", 0, 1, 3);
+        shift(x, "03", 0, 1, 0);
+        shift(x, "1802", 0, 1, 0);
+        shift(x, "1111", 0, 1, 3);
+        // the end at 21, no 20; at 9 and 11, the end at 20 with 1 at the last: no more than one finger
+        x.set(0, 3);
+        shift(x, "20", 0, 1, 0);
+        x.windows(3);
+        x.set(0, 1);
+        x.gap(1, 1);
+        // hooks at 2, 3, 5, the end at 6; none 6 6 6, a 4 4 4, b 3 3 3, c 5 5 1
+        shift(x, "0501", 0, 2, 0);
+        shift(x, "01", 2, 0, 0);
+        x.windows(4);
+        x.gap(1, 1);
+        // hooks at 2, 3, 5, 7, the end at 9; the first hears 1 by a, b, the last 2 by d, or 6 by b
+        shift(x, "01", 0, 3, 0);
+        shift(x, "06", 0, 3, 0);
+        x.windows(5);
+        for (int w = 0; w < 5; w++) {
+            x.gap(w, 1);
+        }
+        x.set(0, 1);
+        // 1 at the first by a, b and at the last by e: three fingers, as many as there may be
+        shift(x, "01", 0, 4, 1);
+        shift(x, "0101", 4, 0, 3);
     }
 }
