@@ -112,6 +112,9 @@ public final class PlainModelTest {
         if (random.nextInt(12) == 0) {
             text.append((char) ('0' + random.nextInt(11)));
         }
+        if (text.length() > 0 && random.nextInt(8) == 0) {
+            text.setCharAt(random.nextInt(text.length()), (char) ('0' + random.nextInt(11)));
+        }
         return text.length() > 60 ? text.substring(0, 60) : text.toString();
     }
 

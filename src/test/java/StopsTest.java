@@ -8,6 +8,7 @@ public final class StopsTest {
         changesRefused();
         shifts();
         shiftsAnew();
+        shiftsForgetWhatWas();
         Check.end();
     }
 
@@ -207,5 +208,35 @@ public final class StopsTest {
         // 1 at the first by a, b and at the last by e: three fingers, as many as there may be
         shift(x, "01", 0, 4, 1);
         shift(x, "0101", 4, 0, 3);
+        // b to the end is 33 now, and no 1
+        x.gap(2, 9);
+        x.gap(3, 9);
+        x.gap(4, 9);
+        x.set(0, 6);
+        shift(x, "01", 0, 4, 0);
+    }
+
+    private static void shiftsForgetWhatWas() {
+        StreetString x = new StreetString();
+        // the first hears 3 from a to b
+        x.gap(1, 3);
+        shift(x, "03", 0, 1, 0);
+        // now only the last can hear 3, from e to the end, the first 2 at once by a, b, and the last 2 by f
+        x.gap(1, 2);
+        x.gap(5, 1);
+        shift(x, "0302", 0, 5, 0);
+        shift(x, "0302", 5, 0, 0);
+        StreetString y = new StreetString();
+        y.windows(3);
+        for (int w = 0; w < 3; w++) {
+            y.gap(w, 6);
+        }
+        shift(y, "20", 0, 2, 1);
+        // hooks at 8, 17, 20, the end at 29: the first hears 20 by c alone, the last 9 then
+        y.gap(0, 8);
+        y.gap(1, 9);
+        y.gap(2, 3);
+        y.set(0, 9);
+        shift(y, "20", 0, 2, 0);
     }
 }

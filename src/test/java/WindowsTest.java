@@ -150,8 +150,8 @@ public final class WindowsTest {
     private static void tuneFault() {
         StreetString x = new StreetString();
         Check.due("empty", x.fault(1), 0);
-        String[] texts = {"01", "20", "0120", "0", "1", "2", "00", "21", "3", "9", "1a", "a1", "011", "012", "0100", "0121", "013", "01.", "010", "1019", "29", "0/", "0:"};
-        int[] dues = {-6, -6, -6, 1, 1, 1, 1, 1, 0, 0, 1, 0, 3, 3, 3, 3, 2, 2, 3, -6, 1, 1, 1};
+        String[] texts = {"01", "20", "0120", "0", "1", "2", "00", "21", "3", "9", "1a", "a1", "011", "012", "0100", "0121", "013", "01.", "010", "1019", "29", "0/", "0:", "010100", "0102030421", "0102033"};
+        int[] dues = {-6, -6, -6, 1, 1, 1, 1, 1, 0, 0, 1, 0, 3, 3, 3, 3, 2, 2, 3, -6, 1, 1, 1, 5, 9, 6};
         for (int i = 0; i < texts.length; i++) {
             Check.tell(x, texts[i]);
             Check.due("tune " + texts[i], x.fault(1), dues[i]);
