@@ -450,6 +450,29 @@ public final class ChanceEdgesTest {
             restore 0 : 1
             borrow 0 1 1 : 1002
             """);
+        Script.run("32: a full row of SIGHTS comes back, the first and the last of them as they were", """
+            seen 0 12
+            times 6 seen 4 12
+            seen 5 2
+            image 0
+            fit 0 : 1
+            forget
+            times 8 seen 3 200
+            image 1
+            fit 0 : 0
+            restore 0 : 1
+            told 7 : 8
+            fit 0 : 1
+            fit 3 : 32
+            ask 0 : 1
+            restore 1 : 1
+            fit 0 : 0
+            ask 0 : NONE
+            forget : 8
+            restore 0 : 1
+            fit 3 : 32
+            seen 0 12 : FULL
+            """);
         Script.run("31: kept anew, and the two apart", """
             play a
             image 0

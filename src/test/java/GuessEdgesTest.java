@@ -141,6 +141,21 @@ public final class GuessEdgesTest {
             fit 0 : 0
             fit 3 : NONE
             """);
+        Script.run("21: the first and the last WINDOW are stopped in all", """
+            seen 0 10
+            seen 5 2
+            seen 4 10
+            fit 0 : 1
+            fit 1 : 33
+            fit 2 : 33
+            fit 3 : 33
+            windows 10
+            seen 0 18
+            seen 9 2
+            seen 8 18
+            fit 1 : 513
+            fit 2 : 513
+            """);
         Script.run("21: a SIGHT that is refused does not count", """
             times 8 seen 5 2
             seen 5 14 : FULL
